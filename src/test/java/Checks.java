@@ -81,6 +81,26 @@ final class Checks {
         return all.append("knocks ").append(x.house(5)).toString();
     }
 
+    /** What digest() has to be, reckoned from the other answers. */
+    static long reckoned(Overwalks x, boolean isSound) {
+        long d = 7780;
+        for (int what = 0; what <= 5; what++) {
+            d = d * 31 + x.house(what);
+        }
+        for (int shelf = 0; shelf <= 10; shelf++) {
+            d = d * 31 + x.size(shelf);
+            for (String thing : x.isEmpty(shelf) ? new String[0] : x.text(shelf).split(" ")) {
+                d = d * 31 + (thing.equals("-") ? NOTHING : Integer.parseInt(thing));
+            }
+        }
+        for (int walk = 0; walk <= 5; walk++) {
+            for (int what = 0; what <= 3; what++) {
+                d = d * 31 + x.ofWalk(walk, what);
+            }
+        }
+        return d * 31 + (isSound ? 1 : 0);
+    }
+
     static void end() {
         System.out.println(passed + " checks passed, " + failed + " failed");
         if (failed != 0 || passed == 0) {

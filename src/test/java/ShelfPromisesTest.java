@@ -176,6 +176,9 @@ public final class ShelfPromisesTest {
         Checks.due("of VALUES the whole TABLE", x.size(6) + x.size(7), 0);
         Checks.due("both SHIFTED", Checks.isStale(x, 0) && Checks.isStale(x, 1), true);
         Checks.due("another SHELF stays", x.size(0), 1);
+        x.walk(2, 0, 1);
+        Checks.due("clear of one", x.clear(0), 1);
+        Checks.due("stale then", Checks.isStale(x, 2), true);
         for (int shelf : Checks.NO_SHELVES) {
             Checks.noPlace(x, "clear " + shelf, () -> x.clear(shelf));
         }
