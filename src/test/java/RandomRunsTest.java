@@ -1,17 +1,14 @@
-import java.lang.reflect.InvocationTargetException;
-import java.lang.reflect.Method;
 import java.util.ArrayList;
-import java.util.HashMap;
 import java.util.List;
-import java.util.Map;
 
 /**
  * Long runs of calls on Overwalks and on CollectionsModel side by side, by chance but the same
  * each time: every answer and every exception has to be the same, and digest() behind each call.
  */
 public final class RandomRunsTest {
-    private static final int RUNS = 3000;
-    private static final int CALLS = 512;
+    private static final int RUNS = 6000;
+    /** With a digest() behind each call an object gets twice as many: 512. */
+    private static final int CALLS = 256;
 
     /** How often of 1000, the method, and a sign for each argument (see argument()). */
     private static final String[] KINDS = {
@@ -27,76 +24,40 @@ public final class RandomRunsTest {
 
     private static long seed = 20261118;
 
-    private static final List<String> CHOICES = new ArrayList<>();
-    private static final Map<String, Method> OF_PROGRAM = methodsOf(Overwalks.class);
-    private static final Map<String, Method> OF_MODEL = methodsOf(CollectionsModel.class);
+    private static final List<String[]> CHOICES = new ArrayList<>();
 
-    public static void main(String[] args) throws IllegalAccessException {
+    public static void main(String[] args) {
         for (String kind : KINDS) {
             String[] parts = kind.split(" ", 2);
             for (int i = Integer.parseInt(parts[0]); i > 0; i--) {
-                CHOICES.add(parts[1]);
+                CHOICES.add(parts[1].split(" "));
             }
         }
         for (int run = 0; run < RUNS; run++) {
             if (!agrees(run)) {
                 break;
             }
+            Checks.due("run " + run, true, true);
         }
         Checks.end();
     }
 
-    private static boolean agrees(int run) throws IllegalAccessException {
-        Overwalks x = new Overwalks();
-        CollectionsModel model = new CollectionsModel();
+    private static boolean agrees(int run) {
+        SideBySide both = new SideBySide();
         // Few THINGS and few SHELVES make calls meet; other runs reach everywhere.
         int things = run % 3 == 0 ? 100 : 2 + below(8);
         int shelf = run % 4 == 0 ? below(11) : -1;
-        List<String> calls = new ArrayList<>();
         for (int i = 0; i < CALLS; i++) {
-            String[] kind = CHOICES.get(below(CHOICES.size())).split(" ");
+            String[] kind = CHOICES.get(below(CHOICES.size()));
             Object[] arguments = new Object[kind.length == 1 ? 0 : kind[1].length()];
             for (int k = 0; k < arguments.length; k++) {
                 arguments[k] = argument(kind[1].charAt(k), things, shelf);
             }
-            Object got = answer(OF_PROGRAM.get(kind[0]), x, arguments);
-            Object want = answer(OF_MODEL.get(kind[0]), model, arguments);
-            calls.add(kind[0] + List.of(arguments));
-            if (!got.equals(want) || x.digest() != model.digest()) {
-                Checks.due("run " + run + ": " + calls + ", the last of them", got, want);
-                Checks.due("run " + run + ": digest() then", x.digest(), model.digest());
+            if (!both.agreesOn(new SideBySide.Call(kind[0], arguments))) {
                 return false;
             }
         }
-        Checks.due("run " + run, true, true);
         return true;
-    }
-
-    private static Map<String, Method> methodsOf(Class<?> type) {
-        Map<String, Method> byName = new HashMap<>();
-        for (String kind : KINDS) {
-            byName.put(kind.split(" ")[1], null);
-        }
-        for (Method method : type.getDeclaredMethods()) {
-            // The model's helpers bear public names too: the face's one has just ints and booleans.
-            boolean isPlain = true;
-            for (Class<?> parameter : method.getParameterTypes()) {
-                isPlain &= parameter == int.class || parameter == boolean.class;
-            }
-            if (isPlain && byName.containsKey(method.getName())) {
-                byName.put(method.getName(), method);
-            }
-        }
-        return byName;
-    }
-
-    private static Object answer(Method method, Object on, Object[] arguments)
-            throws IllegalAccessException {
-        try {
-            return method.invoke(on, arguments);
-        } catch (InvocationTargetException e) {
-            return e.getCause().getClass();
-        }
     }
 
     private static Object argument(char sign, int things, int shelf) {
@@ -117,7 +78,7 @@ public final class RandomRunsTest {
             case 'p':
                 return isSeldom ? below(17) - 2 : below(6);
             case 'h':
-                return isSeldom ? below(5) - 1 : below(2);
+                return isSeldom ? below(5) - 1 : below(8) == 0 ? 2 : below(2);
             case 'm':
                 return isSeldom ? below(17) - 2 : below(4);
             case 'y':
