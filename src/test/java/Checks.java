@@ -13,8 +13,30 @@ final class Checks {
 
     private static int passed = 0;
     private static int failed = 0;
+    private static int sentences = 0;
+    private static String sentence = "";
 
     private Checks() {
+    }
+
+    /** A test of one sentence of the document; it has to look at something. */
+    static void sentence(String where, String words, Runnable test) {
+        sentences++;
+        sentence = where + " \"" + words + "\": ";
+        int ahead = passed + failed;
+        try {
+            test.run();
+        } catch (RuntimeException e) {
+            due("a call that was not to throw", e, null);
+        }
+        if (passed + failed == ahead) {
+            due("what was looked at", 0, "something");
+        }
+        sentence = "";
+    }
+
+    static void sentence(int promise, String words, Runnable test) {
+        sentence("Promise " + promise, words, test);
     }
 
     static void due(String call, Object got, Object want) {
@@ -22,7 +44,7 @@ final class Checks {
             passed++;
         } else {
             failed++;
-            System.out.println(call + " answered " + got + ", due is " + want);
+            System.out.println(sentence + call + " answered " + got + ", due is " + want);
         }
     }
 
@@ -102,6 +124,9 @@ final class Checks {
     }
 
     static void end() {
+        if (sentences > 0) {
+            System.out.println(sentences + " sentences of the document");
+        }
         System.out.println(passed + " checks passed, " + failed + " failed");
         if (failed != 0 || passed == 0) {
             System.exit(1);
@@ -110,11 +135,19 @@ final class Checks {
 
     // ---- shelves and walks to begin with
 
+    static final int[] SHELVES = {0, 1, 2, 3, 4, 5, 6, 7, 8, 9, 10};
+    static final int[] LISTS = {8, 9, 10};
+    static final int[] TAKE_NOTHINGS = {0, 1, 2, 4, 8, 9, 10};
+    static final int[] PUT_UPON = {0, 1, 2, 3, 4, 5, 8, 9, 10};
+    static final int[] TABLE = {6, 7};
+    static final int[] WALKS = {0, 1, 2, 3, 4, 5};
+    static final int[] FILLINGS = {0, 1, 2, 3, 4, 5, 6, 7, 8, 9, 10, 11, 12};
     static final int[] ROWS = {0, 1, 2, 8, 9, 10};
     static final int[] NO_ROWS = {-1, 3, 4, 5, 6, 7, 11, Integer.MIN_VALUE, Integer.MAX_VALUE};
     static final int[] NO_SHELVES = {-1, 11, Integer.MIN_VALUE, Integer.MAX_VALUE};
     static final int[] NO_LISTS = {-1, 0, 7, 11, Integer.MIN_VALUE, Integer.MAX_VALUE};
     static final int[] NO_WALKS = {-1, 6, Integer.MIN_VALUE, Integer.MAX_VALUE};
+    static final int[] NO_THINGS = {-1, 100, 101, Integer.MIN_VALUE, Integer.MAX_VALUE};
     static final int[] NO_THINGS_OR_NOTHING = {-1, 101, Integer.MIN_VALUE, Integer.MAX_VALUE};
     static final int[] TAKE_NO_NOTHINGS = {3, 5, 6, 7};
 
@@ -141,6 +174,40 @@ final class Checks {
             things[i] = i + 1;
         }
         return things;
+    }
+
+    static boolean isAmong(int[] some, int one) {
+        for (int each : some) {
+            if (each == one) {
+                return true;
+            }
+        }
+        return false;
+    }
+
+    /** The HOWS that a WALK over this SHELF may have. */
+    static int[] howsOver(int shelf) {
+        return shelf == 0 ? new int[] {0, 1, 2} : new int[] {0, 1};
+    }
+
+    /** The HOWS over this SHELF but ITERATOR. */
+    static int[] howsThatGiveAll(int shelf) {
+        return shelf == 0 ? new int[] {0, 2} : new int[] {0};
+    }
+
+    /** Something comes upon this SHELF or goes from it. */
+    static void shift(Overwalks x, int shelf) {
+        if (x.isEmpty(shelf)) {
+            lay(x, shelf, 1);
+        } else {
+            x.take(shelf, x.first(shelf, false));
+        }
+    }
+
+    /** A WALK is made and STALE at once. */
+    static void makeStale(Overwalks x, int walk, int shelf, int how) {
+        x.walk(walk, shelf, how);
+        shift(x, shelf);
     }
 
     static boolean isStale(Overwalks x, int walk) {
