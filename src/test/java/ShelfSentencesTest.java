@@ -68,7 +68,21 @@ public final class ShelfSentencesTest {
     }
 
     private static void promise2Put() {
-        Checks.sentence(2, "One is PUT. Returns 1 if something is otherwise then, 0 if not", () -> {
+        Checks.sentence(2, "One is PUT.", () -> {
+            for (int shelf : Checks.PUT_UPON) {
+                for (int many = 0; many <= 11; many++) {
+                    Overwalks x = Checks.with(shelf, Checks.upTo(many));
+                    List<Integer> want = listUpTo(many);
+                    x.put(shelf, 0);
+                    want.add(shelf == 3 ? 0 : many, 0);
+                    Checks.due("0 behind " + many + " on " + shelf, x.text(shelf), textOf(want));
+                }
+                Overwalks x = Checks.with(shelf, 5);
+                x.put(shelf, 5);
+                Checks.due("again on " + shelf, x.text(shelf), shelf == 3 || shelf == 4 ? "5" : "5 5");
+            }
+        });
+        Checks.sentence(2, "Returns 1 if something is otherwise then, 0 if not", () -> {
             for (int shelf : SEVERAL_TIMES) {
                 Overwalks x = new Overwalks();
                 for (int many = 1; many <= 12; many++) {
@@ -610,26 +624,44 @@ public final class ShelfSentencesTest {
         });
     }
 
+    /** What is looked at on one of the ROWS with 1 .. many upon it. */
+    private interface RowTest {
+        void look(Overwalks x, int row, int many);
+    }
+
+    private static void onEachRow(RowTest test) {
+        for (int row : Checks.ROWS) {
+            for (int many : Checks.FILLINGS) {
+                test.look(Checks.with(row, Checks.upTo(many)), row, many);
+            }
+        }
+    }
+
     private static int[] noPlacesOf(int many) {
         return new int[] {-1, many, many + 1, Integer.MIN_VALUE, Integer.MAX_VALUE};
     }
 
     private static void promise8Change() {
-        Checks.sentence(8, "What lies on a PLACE becomes another one. Returns what it was.", () -> {
-            for (int row : Checks.ROWS) {
-                for (int many : Checks.FILLINGS) {
-                    for (int place = 0; place < many; place++) {
-                        Overwalks x = Checks.with(row, Checks.upTo(many));
-                        List<Integer> want = listUpTo(many);
-                        Checks.due("it was", x.change(row, place, NOTHING), want.set(place, NOTHING));
-                        Checks.due("row " + row, x.text(row), textOf(want));
-                        Checks.due("it was NOTHING", x.change(row, place, 0), NOTHING);
-                        Checks.due("it was 0", x.change(row, place, 99), 0);
-                        Checks.due("it stays 99", x.change(row, place, 99), 99);
-                    }
+        Checks.sentence(8, "What lies on a PLACE becomes another one.", () -> onEachRow((x, row, many) -> {
+            List<Integer> want = listUpTo(many);
+            Checks.due("row " + row, x.text(row), textOf(want));
+            for (int place = 0; place < many; place++) {
+                for (int thing : new int[] {0, 99, NOTHING}) {
+                    x.change(row, place, thing);
+                    want.set(place, thing);
+                    Checks.due("row " + row, x.text(row), textOf(want));
                 }
             }
-        });
+        }));
+        Checks.sentence(8, "Returns what it was.", () -> onEachRow((x, row, many) -> {
+            for (int place = 0; place < many; place++) {
+                Checks.due("it was", x.change(row, place, NOTHING), place + 1);
+                Checks.due("it was NOTHING", x.change(row, place, 0), NOTHING);
+                Checks.due("it was 0", x.change(row, place, 99), 0);
+                Checks.due("it stays 99", x.change(row, place, 99), 99);
+            }
+            Checks.due("how many lie there", x.size(row), many);
+        }));
         throwsIfNoneOfTheRows(8, (x, row) -> x.change(row, 0, 5));
         Checks.sentence(8, "or there is no such PLACE", () -> {
             for (int row : Checks.ROWS) {
@@ -652,7 +684,15 @@ public final class ShelfSentencesTest {
     }
 
     private static void promise9Insert() {
-        Checks.sentence(9, "One comes ahead of a PLACE. Returns how many there are then.", () -> {
+        Checks.sentence(9, "Returns how many there are then.", () -> {
+            for (int row : Checks.ROWS) {
+                Overwalks x = new Overwalks();
+                for (int many = 1; many <= 12; many++) {
+                    Checks.due("insert ahead of " + many / 2, x.insert(row, many / 2, 5), many);
+                }
+            }
+        });
+        Checks.sentence(9, "One comes ahead of a PLACE.", () -> {
             for (int row : Checks.ROWS) {
                 for (int many = 0; many <= 11; many++) {
                     for (int place = 0; place < many; place++) {
@@ -706,22 +746,32 @@ public final class ShelfSentencesTest {
         Overwalks x = Checks.with(row, Checks.upTo(many));
         List<Integer> want = listUpTo(many);
         want.add(place, thing);
-        Checks.due("insert on " + row + " ahead of " + place, x.insert(row, place, thing), many + 1);
-        Checks.due("row " + row, x.text(row), textOf(want));
+        x.insert(row, place, thing);
+        Checks.due("row " + row + ", ahead of " + place, x.text(row), textOf(want));
     }
 
     private static void promise10Remove() {
-        Checks.sentence(10, "What lies on a PLACE goes. Returns what it was.", () -> {
+        Checks.sentence(10, "What lies on a PLACE goes.", () -> {
             for (int row : Checks.ROWS) {
                 for (int many : Checks.FILLINGS) {
                     for (int place = 0; place < many; place++) {
                         Overwalks x = Checks.with(row, Checks.upTo(many));
                         List<Integer> want = listUpTo(many);
-                        int was = want.remove(place);
-                        Checks.due("remove of " + place, x.remove(row, place), was);
-                        Checks.due("row " + row, x.text(row), textOf(want));
+                        want.remove(place);
+                        x.remove(row, place);
+                        Checks.due("row " + row + " of " + many, x.text(row), textOf(want));
                     }
                 }
+            }
+        });
+        Checks.sentence(10, "Returns what it was.", () -> {
+            onEachRow((x, row, many) -> {
+                for (int place = many - 1; place >= 0; place--) {
+                    Checks.due("remove of the last", x.remove(row, place), place + 1);
+                }
+                Checks.due("none is left", x.size(row), 0);
+            });
+            for (int row : Checks.ROWS) {
                 Overwalks x = Checks.with(row, 0, NOTHING, 99);
                 Checks.due("NOTHING", x.remove(row, 1), NOTHING);
                 Checks.due("99", x.remove(row, 1), 99);
@@ -742,26 +792,28 @@ public final class ShelfSentencesTest {
     }
 
     private static void promise11Turn() {
-        Checks.sentence(11, "The first PLACE and the last one change, and so on (Collections.reverse)."
-                + " Returns how many there are.", () -> {
-            for (int row : Checks.ROWS) {
-                for (int many : Checks.FILLINGS) {
-                    Overwalks x = Checks.with(row, Checks.upTo(many));
-                    List<Integer> want = listUpTo(many);
-                    Collections.reverse(want);
-                    Checks.due("turn(" + row + ")", x.turn(row), many);
-                    Checks.due("row " + row, x.text(row), textOf(want));
-                    x.turn(row);
-                    Checks.due("turned back", x.text(row), textOf(listUpTo(many)));
-                }
-            }
-        });
+        Checks.sentence(11, "The first PLACE and the last one change, and so on (Collections.reverse).",
+                () -> onEachRow((x, row, many) -> {
+            List<Integer> want = listUpTo(many);
+            Collections.reverse(want);
+            x.turn(row);
+            Checks.due("row " + row, x.text(row), textOf(want));
+            x.turn(row);
+            Checks.due("turned back", x.text(row), textOf(listUpTo(many)));
+        }));
+        Checks.sentence(11, "Returns how many there are.", () -> onEachRow((x, row, many) ->
+            Checks.due("turn(" + row + ")", x.turn(row), many)));
         throwsIfNoneOfTheRows(11, (x, row) -> x.turn(row));
     }
 
     private static void promise12Rotate() {
+        Checks.sentence(12, "Returns how many there are.", () -> onEachRow((x, row, many) -> {
+            for (int by = -20; by <= 20; by++) {
+                Checks.due("rotate(" + row + ", " + by + ")", x.rotate(row, by), many);
+            }
+        }));
         Checks.sentence(12, "Each one goes so many PLACES on, from the end to the beginning again"
-                + " (Collections.rotate). Returns how many there are.", () -> {
+                + " (Collections.rotate).", () -> {
             for (int row : Checks.ROWS) {
                 for (int many : Checks.FILLINGS) {
                     for (int by = 0; by <= 20; by++) {
@@ -801,12 +853,19 @@ public final class ShelfSentencesTest {
         Overwalks x = Checks.with(row, Checks.upTo(many));
         List<Integer> want = listUpTo(many);
         Collections.rotate(want, by);
-        Checks.due("rotate(" + row + ", " + by + ")", x.rotate(row, by), many);
+        x.rotate(row, by);
         Checks.due(many + " rotated by " + by, x.text(row), textOf(want));
     }
 
     private static void promise13Swap() {
-        Checks.sentence(13, "Two PLACES change (Collections.swap). Returns what lies on the first one then.", () -> {
+        Checks.sentence(13, "Returns what lies on the first one then.", () -> onEachRow((x, row, many) -> {
+            for (int place = 1; place < many; place++) {
+                Checks.due("swap with the first PLACE", x.swap(row, place, 0), place);
+                Checks.due("swap with itself", x.swap(row, 0, 0), place + 1);
+            }
+            Checks.due("how many lie there", x.size(row), many);
+        }));
+        Checks.sentence(13, "Two PLACES change (Collections.swap).", () -> {
             for (int row : Checks.ROWS) {
                 for (int many : Checks.FILLINGS) {
                     for (int place = 0; place < many; place++) {
@@ -845,22 +904,22 @@ public final class ShelfSentencesTest {
         Overwalks x = Checks.with(row, Checks.upTo(many));
         List<Integer> want = listUpTo(many);
         Collections.swap(want, place, other);
-        Checks.due("swap " + place + " and " + other, x.swap(row, place, other), want.get(place));
-        Checks.due("row " + row, x.text(row), textOf(want));
+        x.swap(row, place, other);
+        Checks.due(place + " and " + other + " of row " + row, x.text(row), textOf(want));
     }
 
     private static void promise14Fill() {
-        Checks.sentence(14, "All become one (Collections.fill). Returns how many there are.", () -> {
-            for (int row : Checks.ROWS) {
-                for (int many : Checks.FILLINGS) {
-                    for (int thing : new int[] {0, 1, 99, NOTHING}) {
-                        Overwalks x = Checks.with(row, Checks.upTo(many));
-                        Checks.due("fill(" + row + ", " + thing + ")", x.fill(row, thing), many);
-                        Checks.due("row " + row, x.text(row), textOf(Collections.nCopies(many, thing)));
-                    }
-                }
+        Checks.sentence(14, "All become one (Collections.fill).", () -> onEachRow((x, row, many) -> {
+            for (int thing : new int[] {0, 1, 99, NOTHING}) {
+                x.fill(row, thing);
+                Checks.due("row " + row, x.text(row), textOf(Collections.nCopies(many, thing)));
             }
-        });
+        }));
+        Checks.sentence(14, "Returns how many there are.", () -> onEachRow((x, row, many) -> {
+            for (int thing : new int[] {0, 1, 99, NOTHING}) {
+                Checks.due("fill(" + row + ", " + thing + ")", x.fill(row, thing), many);
+            }
+        }));
         throwsIfNoneOfTheRows(14, (x, row) -> x.fill(row, 5));
         Checks.sentence(14, "Throws IllegalArgumentException if thing is not 0 to 100", () -> {
             for (int row : Checks.ROWS) {
@@ -925,7 +984,12 @@ public final class ShelfSentencesTest {
     }
 
     private static void promise16Copies() {
-        Checks.sentence(16, "One comes behind all, several times (Collections.nCopies). Returns how many there are then.", () -> {
+        Checks.sentence(16, "Returns how many there are then.", () -> onEachRow((x, row, many) -> {
+            Checks.due("none", x.copies(row, 5, 0), many);
+            Checks.due("up to 12", x.copies(row, 5, 12 - many), 12);
+            Checks.due("none on 12", x.copies(row, 5, 0), 12);
+        }));
+        Checks.sentence(16, "One comes behind all, several times (Collections.nCopies).", () -> {
             for (int row : Checks.ROWS) {
                 for (int lie : Checks.FILLINGS) {
                     for (int many = 0; many <= 12 - lie; many++) {
@@ -977,7 +1041,7 @@ public final class ShelfSentencesTest {
         Overwalks x = Checks.with(row, Checks.upTo(lie));
         List<Integer> want = listUpTo(lie);
         want.addAll(Collections.nCopies(many, thing));
-        Checks.due(many + " copies on " + lie, x.copies(row, thing, many), lie + many);
-        Checks.due("row " + row, x.text(row), textOf(want));
+        x.copies(row, thing, many);
+        Checks.due(many + " copies on " + lie + ", row " + row, x.text(row), textOf(want));
     }
 }

@@ -10,6 +10,9 @@ public final class WalkDescriptionSentencesTest {
     /** No call here uses this WALK for itself: it sees whether its SHELF was SHIFTED or TURNED. */
     private static final int OBSERVER = 5;
 
+    private static final int SHIFTS = 6;
+    private static final int TURNS = 6;
+
     public static void main(String[] args) {
         shiftedIfSomethingComes();
         shiftedIfSomethingGoes();
@@ -408,6 +411,11 @@ public final class WalkDescriptionSentencesTest {
                     }
                 }
                 anotherIteratorMakesStale(shelf);
+                for (int first = 0; first < SHIFTS; first++) {
+                    for (int second = 0; second < SHIFTS; second++) {
+                        isStaleBehindBoth(shelf, first, second);
+                    }
+                }
             }
             Overwalks x = Checks.with(0, 1, 2);
             x.walk(0, 0, 2);
@@ -446,6 +454,42 @@ public final class WalkDescriptionSentencesTest {
         Checks.refused(x, "next", () -> x.next(0));
         x.walk(0, shelf, how);
         Checks.due("not STALE when made anew", x.ofWalk(0, 3), 0);
+    }
+
+    /** One of the calls by which something comes or goes, as far as this SHELF has it. */
+    private static void shiftBy(Overwalks x, int shelf, int which) {
+        if (which == 0) {
+            Checks.lay(x, shelf, 60);
+        } else if (which == 1) {
+            x.take(shelf, x.first(shelf, true));
+        } else if (which == 2) {
+            x.clear(shelf);
+        } else if (which == 3 && shelf != 7) {
+            x.walk(1, shelf, 1);
+            x.next(1);
+            x.takeOut(1);
+        } else if (which == 4 && shelf >= 8) {
+            x.keep(shelf, 3);
+        } else if (shelf >= 8) {
+            x.walk(1, 3, 0);
+            x.keepRest(1, shelf);
+        } else {
+            Checks.shift(x, shelf);
+        }
+    }
+
+    /** What one call SHIFTED another one does not undo. */
+    private static void isStaleBehindBoth(int shelf, int first, int second) {
+        Overwalks x = Checks.with(shelf, 1, 2, 3);
+        x.put(3, 70);
+        x.walk(0, shelf, 0);
+        shiftBy(x, shelf, first);
+        Checks.due("STALE behind " + first, x.ofWalk(0, 3), 1);
+        if (x.isEmpty(shelf)) {
+            Checks.lay(x, shelf, 80);
+        }
+        shiftBy(x, shelf, second);
+        Checks.due("STALE behind " + first + " and " + second + " of " + shelf, x.ofWalk(0, 3), 1);
     }
 
     private static void anotherIteratorMakesStale(int shelf) {
@@ -650,8 +694,39 @@ public final class WalkDescriptionSentencesTest {
         sentence("and not if its SHELF was TURNED since it gave that.", () -> {
             for (int row : Checks.ROWS) {
                 takesOutNoneThatWasTurned(row);
+                for (int first = 0; first < TURNS; first++) {
+                    for (int second = 0; second < TURNS; second++) {
+                        takesOutNoneBehindBoth(row, first, second);
+                    }
+                }
             }
         });
+    }
+
+    private static void turnBy(Overwalks x, int row, int which) {
+        if (which == 0) {
+            x.change(row, 0, 9);
+        } else if (which == 1) {
+            x.turn(row);
+        } else if (which == 2) {
+            x.rotate(row, 1);
+        } else if (which == 3) {
+            x.swap(row, 0, 1);
+        } else if (which == 4) {
+            x.fill(row, 9);
+        } else {
+            x.replace(row, 1, 9);
+        }
+    }
+
+    /** That it was TURNED by one call another one does not undo. */
+    private static void takesOutNoneBehindBoth(int row, int first, int second) {
+        Overwalks x = Checks.with(row, 1, 2, 3);
+        x.walk(0, row, 1);
+        x.next(0);
+        turnBy(x, row, first);
+        turnBy(x, row, second);
+        Checks.refused(x, "takeOut behind " + first + " and " + second, () -> x.takeOut(0));
     }
 
     private static void takesOutOnceForEach(int shelf) {

@@ -42,6 +42,23 @@ public final class WalkSentencesTest {
         return x;
     }
 
+    /** What is looked at when WALK 0 gave so many of 1 .. many and can give all that it has. */
+    private interface RestTest {
+        void look(Overwalks x, int shelf, int many, int given);
+    }
+
+    private static void onEachThatGivesAll(RestTest test) {
+        for (int shelf : Checks.SHELVES) {
+            for (int how : Checks.howsThatGiveAll(shelf)) {
+                for (int many : Checks.FILLINGS) {
+                    for (int given = 0; given <= many; given++) {
+                        test.look(walked(shelf, how, many, given), shelf, many, given);
+                    }
+                }
+            }
+        }
+    }
+
     private static void throwsIfThereIsNoSuchWalk(int promise, BiFunction<Overwalks, Integer, Object> call) {
         Checks.sentence(promise, "Throws IndexOutOfBoundsException if there is no such WALK", () -> {
             Overwalks x = Checks.with(0, 1, 2);
@@ -110,6 +127,12 @@ public final class WalkSentencesTest {
                 x.walk(walk, 0, 1);
                 Checks.refused(x, "what it gave ahead is gone", () -> x.takeOut(walk));
                 Checks.due("WALKS", x.house(2), 1);
+                x.skip(walk, 2);
+                x.takeOut(walk);
+                x.walk(walk, 0, 1);
+                Checks.due("what it took out is forgotten", x.next(walk), 1);
+                Checks.due("all the others are ahead", x.skip(walk, 12), 1);
+                Checks.due("GIVEN anew", x.ofWalk(walk, 2), 2);
             }
         });
         Checks.sentence(17, "Returns how many lie there.", () -> {
@@ -157,7 +180,19 @@ public final class WalkSentencesTest {
     }
 
     private static void promise18Next() {
-        Checks.sentence(18, "A WALK gives one. Returns the THING, or NOTHING", () -> {
+        Checks.sentence(18, "A WALK gives one.", () -> {
+            for (int shelf : Checks.SHELVES) {
+                for (int how : Checks.howsOver(shelf)) {
+                    Overwalks x = walked(shelf, how, 12, 0);
+                    for (int given = 1; given <= 12; given++) {
+                        x.next(0);
+                        Checks.due("GIVEN", x.ofWalk(0, 2), given);
+                        Checks.due("MORE", x.more(0), given < 12 ? 1 : 0);
+                    }
+                }
+            }
+        });
+        Checks.sentence(18, "Returns the THING, or NOTHING", () -> {
             for (int shelf : Checks.SHELVES) {
                 for (int how : Checks.howsOver(shelf)) {
                     Overwalks x = Checks.with(shelf, 0, 50, 99);
@@ -216,7 +251,19 @@ public final class WalkSentencesTest {
     }
 
     private static void promise20TakeOut() {
-        Checks.sentence(20, "A WALK TAKES OUT what it gave last. Returns how many lie on its SHELF then", () -> {
+        Checks.sentence(20, "Returns how many lie on its SHELF then", () -> {
+            for (int shelf : Checks.SHELVES) {
+                if (shelf != 7) {
+                    Overwalks x = walked(shelf, 1, 12, 0);
+                    for (int left = 11; left >= 0; left--) {
+                        x.next(0);
+                        Checks.due("takeOut over " + shelf, x.takeOut(0), left);
+                        Checks.due("size(" + shelf + ")", x.size(shelf), left);
+                    }
+                }
+            }
+        });
+        Checks.sentence(20, "A WALK TAKES OUT what it gave last.", () -> {
             for (int shelf : Checks.SHELVES) {
                 if (shelf != 7) {
                     for (int many = 1; many <= 12; many++) {
@@ -287,7 +334,7 @@ public final class WalkSentencesTest {
 
     private static void takesOutOne(int shelf, int many, int given) {
         Overwalks x = walked(shelf, 1, many, given);
-        Checks.due("takeOut over " + shelf, x.takeOut(0), many - 1);
+        x.takeOut(0);
         Checks.due("size", x.size(shelf), many - 1);
         Checks.due("what it gave last went", x.has(shelf, given), 0);
         Checks.due("GIVEN", x.ofWalk(0, 2), given);
@@ -302,20 +349,18 @@ public final class WalkSentencesTest {
     }
 
     private static void promise21Rest() {
-        Checks.sentence(21, "A WALK gives all that it has (Collections.list). Returns these, as a text", () -> {
-            for (int shelf : Checks.SHELVES) {
-                for (int how : Checks.howsThatGiveAll(shelf)) {
-                    for (int many : Checks.FILLINGS) {
-                        for (int given = 0; given <= many; given++) {
-                            Overwalks x = walked(shelf, how, many, given);
-                            Checks.due("rest", x.rest(0), textFrom(given, many));
-                            Checks.due("GIVEN", x.ofWalk(0, 2), many);
-                            Checks.due("no MORE", x.more(0), 0);
-                            Checks.due("rest again", x.rest(0), "");
-                        }
-                    }
-                }
-            }
+        Checks.sentence(21, "A WALK gives all that it has (Collections.list).", () ->
+            onEachThatGivesAll((x, shelf, many, given) -> {
+                x.rest(0);
+                Checks.due("GIVEN", x.ofWalk(0, 2), many);
+                Checks.due("no MORE", x.more(0), 0);
+                Checks.due("all stays", x.size(shelf), many);
+            }));
+        Checks.sentence(21, "Returns these, as a text", () -> {
+            onEachThatGivesAll((x, shelf, many, given) -> {
+                Checks.due("rest", x.rest(0), textFrom(given, many));
+                Checks.due("rest again", x.rest(0), "");
+            });
             Overwalks x = Checks.with(2, NOTHING, 5, NOTHING);
             x.walk(0, 2, 0);
             Checks.due("NOTHINGS", x.rest(0), "- 5 -");
@@ -334,15 +379,28 @@ public final class WalkSentencesTest {
     }
 
     private static void promise22KeepRest() {
-        Checks.sentence(22, "Likewise; a LIST is made of it. Returns how many it gave", () -> {
+        Checks.sentence(22, "Returns how many it gave", () -> {
             for (int list : Checks.LISTS) {
-                for (int shelf : Checks.SHELVES) {
-                    for (int how : Checks.howsThatGiveAll(shelf)) {
-                        for (int given = 0; given <= 12 && shelf != list; given++) {
-                            keepsTheRest(list, shelf, how, given);
-                        }
+                onEachThatGivesAll((x, shelf, many, given) -> {
+                    if (shelf != list) {
+                        Checks.due("keepRest of " + shelf, x.keepRest(0, list), many - given);
+                        Checks.due("keepRest again", x.keepRest(0, list), 0);
                     }
-                }
+                });
+            }
+        });
+        Checks.sentence(22, "Likewise; a LIST is made of it.", () -> {
+            for (int list : Checks.LISTS) {
+                onEachThatGivesAll((x, shelf, many, given) -> {
+                    if (shelf != list) {
+                        Checks.lay(x, list, Checks.upTo(12));
+                        x.keepRest(0, list);
+                        Checks.due("LIST " + list, x.text(list), textFrom(given, many));
+                        Checks.due("GIVEN", x.ofWalk(0, 2), many);
+                        Checks.due("no MORE", x.more(0), 0);
+                        Checks.due("the SHELF stays", x.size(shelf), many);
+                    }
+                });
             }
             Overwalks x = Checks.with(4, NOTHING, 5);
             Checks.lay(x, 9, 1, 2, 3);
@@ -367,16 +425,6 @@ public final class WalkSentencesTest {
             }
         });
         throwsIfNoneWasMade(22, (x, walk) -> x.keepRest(walk, 8));
-    }
-
-    private static void keepsTheRest(int list, int shelf, int how, int given) {
-        Overwalks x = walked(shelf, how, 12, given);
-        Checks.lay(x, list, Checks.upTo(12));
-        Checks.due("keepRest", x.keepRest(0, list), 12 - given);
-        Checks.due("LIST " + list, x.text(list), textFrom(given, 12));
-        Checks.due("GIVEN", x.ofWalk(0, 2), 12);
-        Checks.due("no MORE", x.more(0), 0);
-        Checks.due("the SHELF stays", x.size(shelf), 12);
     }
 
     private static void promise22KeepRestRefuses() {
@@ -406,7 +454,18 @@ public final class WalkSentencesTest {
     }
 
     private static void promise23Keep() {
-        Checks.sentence(23, "A LIST is made of a SHELF (Collections.list of an ENUMERATION). Returns how many it has.", () -> {
+        Checks.sentence(23, "Returns how many it has.", () -> {
+            for (int list : Checks.LISTS) {
+                for (int shelf : Checks.SHELVES) {
+                    for (int many : Checks.FILLINGS) {
+                        Overwalks x = Checks.with(shelf, Checks.upTo(many));
+                        Checks.due("keep(" + list + ", " + shelf + ")", x.keep(list, shelf), many);
+                        Checks.due("size(" + list + ")", x.size(list), many);
+                    }
+                }
+            }
+        });
+        Checks.sentence(23, "A LIST is made of a SHELF (Collections.list of an ENUMERATION).", () -> {
             for (int list : Checks.LISTS) {
                 for (int shelf : Checks.SHELVES) {
                     for (int many : Checks.FILLINGS) {
@@ -414,7 +473,7 @@ public final class WalkSentencesTest {
                         if (shelf != list) {
                             Checks.lay(x, list, Checks.upTo(12));
                         }
-                        Checks.due("keep(" + list + ", " + shelf + ")", x.keep(list, shelf), many);
+                        x.keep(list, shelf);
                         Checks.due("LIST " + list, x.text(list), textFrom(0, many));
                         Checks.due("the SHELF stays", x.size(shelf), many);
                     }
@@ -449,7 +508,16 @@ public final class WalkSentencesTest {
     }
 
     private static void promise24Drop() {
-        Checks.sentence(24, "A WALK is gone. Returns 1 if there was one, otherwise 0.", () -> {
+        Checks.sentence(24, "A WALK is gone.", () -> {
+            for (int walk : Checks.WALKS) {
+                for (int shelf : Checks.SHELVES) {
+                    for (int how : Checks.howsOver(shelf)) {
+                        isGone(walk, shelf, how);
+                    }
+                }
+            }
+        });
+        Checks.sentence(24, "Returns 1 if there was one, otherwise 0.", () -> {
             for (int walk : Checks.WALKS) {
                 for (int shelf : Checks.SHELVES) {
                     for (int how : Checks.howsOver(shelf)) {
@@ -469,23 +537,50 @@ public final class WalkSentencesTest {
         });
     }
 
+    private static void isGone(int walk, int shelf, int how) {
+        Overwalks x = Checks.with(shelf, 1, 2);
+        int other = (walk + 1) % 6;
+        x.walk(walk, shelf, how);
+        x.walk(other, shelf, how);
+        x.drop(walk);
+        Checks.due("ofWalk", x.ofWalk(walk, 0), NONE);
+        Checks.due("house(2)", x.house(2), 1);
+        Checks.badState(x, "next", () -> x.next(walk));
+        Checks.due("the other one stays", x.next(other), 1);
+        Checks.makeStale(x, walk, shelf, how);
+        Checks.due("house(3)", x.house(3), 2);
+        x.drop(walk);
+        Checks.due("house(3) then", x.house(3), 1);
+    }
+
     private static void dropsOnce(int walk, int shelf, int how) {
         Overwalks x = Checks.with(shelf, 1, 2);
         Checks.due("none was made", x.drop(walk), 0);
         x.walk(walk, shelf, how);
         Checks.due("there was one", x.drop(walk), 1);
         Checks.due("there was none", x.drop(walk), 0);
-        Checks.due("ofWalk", x.ofWalk(walk, 0), NONE);
-        Checks.due("house(2)", x.house(2), 0);
         Checks.makeStale(x, walk, shelf, how);
-        Checks.due("house(3)", x.house(3), 1);
         Checks.due("there was a STALE one", x.drop(walk), 1);
-        Checks.due("house(3) then", x.house(3), 0);
-        Checks.badState(x, "next", () -> x.next(walk));
+        Checks.due("there was none then", x.drop(walk), 0);
     }
 
     private static void promise25Skip() {
-        Checks.sentence(25, "A WALK gives up to so many, which are forgotten. Returns how many it gave", () -> {
+        Checks.sentence(25, "A WALK gives up to so many, which are forgotten.", () -> {
+            for (int shelf : Checks.SHELVES) {
+                for (int how : Checks.howsOver(shelf)) {
+                    for (int many : Checks.FILLINGS) {
+                        for (int upTo : Checks.FILLINGS) {
+                            Overwalks x = walked(shelf, how, many, 0);
+                            x.skip(0, upTo);
+                            Checks.due("GIVEN", x.ofWalk(0, 2), Math.min(upTo, many));
+                            Checks.due("the next", x.next(0), upTo < many ? upTo + 1 : Checks.REFUSED);
+                            Checks.due("all stays", x.size(shelf), many);
+                        }
+                    }
+                }
+            }
+        });
+        Checks.sentence(25, "Returns how many it gave", () -> {
             for (int shelf : Checks.SHELVES) {
                 for (int how : Checks.howsOver(shelf)) {
                     for (int many : Checks.FILLINGS) {
@@ -537,7 +632,16 @@ public final class WalkSentencesTest {
     }
 
     private static void promise26PourRest() {
-        Checks.sentence(26, "A WALK gives all that it has, and these are PUT on a SHELF. Returns how many it gave", () -> {
+        Checks.sentence(26, "Returns how many it gave", () -> {
+            for (int into : Checks.PUT_UPON) {
+                onEachThatGivesAll((x, shelf, many, given) -> {
+                    if (shelf != into || many <= 6) {
+                        Checks.due("pourRest into " + into, x.pourRest(0, into), many - given);
+                    }
+                });
+            }
+        });
+        Checks.sentence(26, "A WALK gives all that it has, and these are PUT on a SHELF", () -> {
             for (int shelf : Checks.SHELVES) {
                 for (int how : Checks.howsThatGiveAll(shelf)) {
                     for (int into : Checks.PUT_UPON) {
@@ -579,7 +683,7 @@ public final class WalkSentencesTest {
         Overwalks x = walked(shelf, how, 4, given);
         Checks.lay(x, into, 2, 3);
         boolean isOnce = into == 3 || into == 4;
-        Checks.due("pourRest", x.pourRest(0, into), 4 - given);
+        x.pourRest(0, into);
         String want = "2 3" + (given < 4 ? " " : "") + textFrom(given, 4);
         if (into == 3) {
             want = given == 0 ? "1 2 3 4" : given < 4 ? "2 3 4" : "2 3";
@@ -681,13 +785,31 @@ public final class WalkSentencesTest {
     }
 
     private static void promise27Zip() {
-        Checks.sentence(27, "Two WALKS give one each, the first one first, as long as both have MORE."
-                + " Returns the pairs, as \"a/b\", with a blank between two", () -> {
+        Checks.sentence(27, "Two WALKS give one each, the first one first, as long as both have MORE.", () -> {
             for (int many : Checks.FILLINGS) {
                 for (int others : Checks.FILLINGS) {
                     for (int how : new int[] {0, 1, 2}) {
-                        zips(many, others, how, (how + 1) % 2);
+                        Overwalks x = twoWalks(many, others, how, (how + 1) % 2);
+                        int both = Math.min(many, others);
+                        x.zip(3, 1);
+                        Checks.due("GIVEN", x.ofWalk(3, 2), both);
+                        Checks.due("GIVEN of the other", x.ofWalk(1, 2), both);
+                        Checks.due("MORE", x.more(3), many > both ? 1 : 0);
+                        Checks.due("MORE of the other", x.more(1), others > both ? 1 : 0);
                     }
+                }
+            }
+        });
+        Checks.sentence(27, "Returns the pairs, as \"a/b\", with a blank between two", () -> {
+            for (int many : Checks.FILLINGS) {
+                for (int others : Checks.FILLINGS) {
+                    Overwalks x = twoWalks(many, others, many % 3, others % 2);
+                    StringBuilder want = new StringBuilder();
+                    for (int thing = 1; thing <= Math.min(many, others); thing++) {
+                        want.append(thing == 1 ? "" : " ").append(thing).append('/').append(20 + thing);
+                    }
+                    Checks.due("zip of " + many + " and " + others, x.zip(3, 1), want.toString());
+                    Checks.due("again", x.zip(3, 1), "");
                 }
             }
             Overwalks x = Checks.with(0, NOTHING, 5);
@@ -727,23 +849,15 @@ public final class WalkSentencesTest {
         });
     }
 
-    private static void zips(int many, int others, int how, int otherHow) {
+    /** WALK 3 over 1 .. many on the VECTOR, WALK 1 over 21 .. 20 + others on the QUEUE. */
+    private static Overwalks twoWalks(int many, int others, int how, int otherHow) {
         Overwalks x = Checks.with(0, Checks.upTo(many));
         for (int thing = 1; thing <= others; thing++) {
             x.put(5, 20 + thing);
         }
         x.walk(3, 0, how);
         x.walk(1, 5, otherHow);
-        StringBuilder want = new StringBuilder();
-        int both = Math.min(many, others);
-        for (int thing = 1; thing <= both; thing++) {
-            want.append(thing == 1 ? "" : " ").append(thing).append('/').append(20 + thing);
-        }
-        Checks.due("zip of " + many + " and " + others, x.zip(3, 1), want.toString());
-        Checks.due("GIVEN", x.ofWalk(3, 2), both);
-        Checks.due("GIVEN of the other", x.ofWalk(1, 2), both);
-        Checks.due("MORE", x.more(3), many > both ? 1 : 0);
-        Checks.due("MORE of the other", x.more(1), others > both ? 1 : 0);
+        return x;
     }
 
     private static void promise27ZipThrows() {
